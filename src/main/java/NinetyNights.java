@@ -78,7 +78,7 @@ public final class NinetyNights {
     }
 
     public int sees(int one) {
-        return told.isPerson(one) ? told.views[one] : NONE;
+        return told.isPerson(one) ? told.seen[one] : NONE;
     }
 
     public int worlds() {
@@ -124,7 +124,7 @@ public final class NinetyNights {
         if (i < 0 || i >= told.sayings) {
             return NONE;
         }
-        weighSaying(now, i);
+        mind.weighSaying(now, i);
         return now.hear(mind.result());
     }
 
@@ -274,14 +274,10 @@ public final class NinetyNights {
         return good;
     }
 
-    private void weighSaying(Scene scene, int i) {
-        mind.weigh(scene, told.code, told.starts[i], told.starts[i + 1]);
-    }
-
     /**
      * Says each set of sayings, the least number first: what is left stands in the row left, and
-     * the answer has a bit for each set all of whose sayings were so. A set's last saying is its
-     * highest, so each set is the next step behind a lower one.
+     * the answer has a bit for each set all of whose sayings were so and struck some world. A set's
+     * last saying is its highest, so each set is the next step behind a lower one.
      */
     private long trySayings() {
         Arrays.fill(left, 0L);
@@ -293,8 +289,9 @@ public final class NinetyNights {
                     continue;
                 }
                 takeLeft(before);
-                weighSaying(trial, last);
-                if (trial.hear(mind.result()) != NONE) {
+                mind.weighSaying(trial, last);
+                // A saying that strikes nothing is never among the fewest, here or further on.
+                if (trial.hear(mind.result()) > 0) {
                     int set = before | 1 << last;
                     trial.note(left, set);
                     sound |= 1L << set;
@@ -325,7 +322,10 @@ public final class NinetyNights {
 
     private int countFits(int k) {
         if (!guesses.fresh) {
-            guesses.learn(told, mind);
+            for (int saying = 0; saying <= told.sayings; saying++) {
+                guesses.learn(told, saying, mind);
+            }
+            guesses.fresh = true;
         }
         return guesses.scan(told, sights, k);
     }
@@ -392,6 +392,8 @@ public final class NinetyNights {
         /** The words in the order of their numbers, eight places each. */
         static final String TEXTS = "one     marked  mirror  stays   blind   law     has     own     saying  or      and     not     marks   gone    knows   all     common  ";
         static final String SIGNS = ";()<>=+-*/";
+        static final int RELATION_RANK = 2;
+        static final int TIMES_RANK = 4;
 
         private Kind() {
         }
@@ -400,8 +402,34 @@ public final class NinetyNights {
             return kind == KNOWS || kind == ALL || kind == COMMON || kind == '(';
         }
 
+        static boolean isLeaf(int kind) {
+            return kind == NUMBER || kind == MARKS || kind == HAS || kind == GONE;
+        }
+
         static boolean startsUnit(int kind) {
-            return opens(kind) || kind == NUMBER || kind == MARKS || kind == HAS || kind == GONE;
+            return isLeaf(kind) || opens(kind);
+        }
+
+        /** How strongly a joint between two parts of a formula binds; NONE if it is no joint. */
+        static int rankOf(int kind) {
+            switch (kind) {
+                case OR:
+                    return 0;
+                case AND:
+                    return 1;
+                case '<':
+                case '>':
+                case '=':
+                    return RELATION_RANK;
+                case '+':
+                case '-':
+                    return RELATION_RANK + 1;
+                case '*':
+                case '/':
+                    return TIMES_RANK;
+                default:
+                    return NONE;
+            }
         }
     }
 
@@ -437,7 +465,6 @@ public final class NinetyNights {
         static final int SAYINGS = 6;
         int people;
         int marked;
-        int mirrors;
         int stayers;
         int blinds;
         int sayings;
@@ -446,7 +473,7 @@ public final class NinetyNights {
         boolean ownLaw;
         private final long[] names = new long[PEOPLE];
         /** Whose marks each sees, as bits. */
-        final int[] views = new int[PEOPLE];
+        final int[] seen = new int[PEOPLE];
         final Code code = new Code();
         /** Where each saying's steps start, and behind them the end of the last. */
         final int[] starts = new int[SAYINGS + 1];
@@ -454,11 +481,9 @@ public final class NinetyNights {
         void clear() {
             people = 0;
             marked = 0;
-            mirrors = 0;
             stayers = 0;
             blinds = 0;
             sayings = 0;
-            units = 0;
             lawTold = false;
             ownLaw = false;
             code.size = 0;
@@ -488,9 +513,9 @@ public final class NinetyNights {
         void addPerson(long name) {
             if (people < PEOPLE) {
                 for (int other = 0; other < people; other++) {
-                    views[other] |= 1 << people;
+                    seen[other] |= 1 << people;
                 }
-                views[people] = (1 << people) - 1;
+                seen[people] = (1 << people) - 1;
                 names[people] = name;
                 people++;
             }
@@ -506,19 +531,18 @@ public final class NinetyNights {
         }
 
         void giveMirror(int one) {
-            mirrors |= 1 << one;
             if (isPerson(one)) {
-                views[one] |= 1 << one;
+                seen[one] |= 1 << one;
             }
         }
 
         boolean canBlind(int one, int other) {
-            return isPerson(one) && one != other && (views[one] >> other & 1) == 1;
+            return isPerson(one) && one != other && (seen[one] >> other & 1) == 1;
         }
 
         void addBlind(int one, int other) {
             if (isPerson(one)) {
-                views[one] &= ~(1 << other);
+                seen[one] &= ~(1 << other);
             }
             blinds++;
         }
@@ -537,35 +561,21 @@ public final class NinetyNights {
         }
     }
 
-    /** Reads the tape's tokens, and from them an island or a formula, up to the first fault. */
-    private static final class Reader {
-        private static final int NO_TOKEN = 1;
-        private static final int OUT_OF_PLACE = 2;
-        private static final int TOLD_ALREADY = 3;
-        private static final int NOBODY = 4;
-        private static final int ISLAND_UNITS = 60;
-        private static final int FORMULA_UNITS = 30;
-        private static final int WITHIN = 6;
+    /** The tokens of a text, up to the first place where there is none. */
+    private static final class Tokens {
         private static final int WORD_LENGTH = 8;
         private static final int NUMBER_LENGTH = 4;
-        int fault = 0;
-        int place = NONE;
-        private final long[] words = new long[Kind.WORDS];
         private final Tape tape;
-        private Island island;
-        private Code code;
-        private int unitLimit;
-        private int units;
-        private int at;
-        private int start;
-        private int kind;
-        private int value;
-        private long word;
+        private final long[] words = new long[Kind.WORDS];
+        private final int[] kinds = new int[Tape.LIMIT + 1];
+        private final int[] places = new int[Tape.LIMIT + 1];
+        /** A number's value, or a word's letters, eight bits each. */
+        private final long[] values = new long[Tape.LIMIT + 1];
+        private int count = 0;
+        private int at = 0;
 
-        Reader(Tape from, Island of, Code into) {
+        Tokens(Tape from) {
             tape = from;
-            island = of;
-            code = into;
             for (int i = 0; i < Kind.WORDS; i++) {
                 for (int k = i * WORD_LENGTH; k < (i + 1) * WORD_LENGTH; k++) {
                     if (k < Kind.TEXTS.length() && Kind.TEXTS.charAt(k) != ' ') {
@@ -575,11 +585,142 @@ public final class NinetyNights {
             }
         }
 
+        void scan() {
+            count = 0;
+            at = 0;
+            int kind = Kind.NAME;
+            // Each token takes a byte at least, and the end one place more.
+            while (count <= Tape.LIMIT && kind != Kind.END && kind != Kind.BAD) {
+                skipBlanks();
+                places[count] = at;
+                values[count] = 0;
+                kind = take();
+                kinds[count] = kind;
+                count++;
+            }
+        }
+
+        int kindOf(int i) {
+            return i >= 0 && i < count ? kinds[i] : Kind.END;
+        }
+
+        int placeOf(int i) {
+            return i >= 0 && i < count ? places[i] : tape.length;
+        }
+
+        long valueOf(int i) {
+            return i >= 0 && i < count ? values[i] : 0;
+        }
+
+        private void skipBlanks() {
+            while (at < tape.length && (tape.at(at) == ' ' || tape.at(at) == 10)) {
+                at++;
+            }
+        }
+
+        /** Goes behind the token that stands here: its kind. */
+        private int take() {
+            int first = tape.at(at);
+            if (first == NONE) {
+                return Kind.END;
+            }
+            if (isLetter(first)) {
+                return takeWord();
+            }
+            if (isDigit(first)) {
+                return takeNumber();
+            }
+            at++;
+            return Kind.SIGNS.indexOf((char) first) >= 0 ? first : Kind.BAD;
+        }
+
+        private int takeWord() {
+            int start = at;
+            long word = 0;
+            while (at < tape.length && isLetter(tape.at(at))) {
+                word = word << 8 | tape.at(at);
+                at++;
+            }
+            if (at - start > WORD_LENGTH) {
+                return Kind.BAD;
+            }
+            values[count] = word;
+            for (int i = 0; i < Kind.WORDS; i++) {
+                if (words[i] == word) {
+                    return Kind.FIRST_WORD + i;
+                }
+            }
+            return Kind.NAME;
+        }
+
+        private int takeNumber() {
+            int start = at;
+            int value = 0;
+            while (at < tape.length && isDigit(tape.at(at))) {
+                value = value * 10 + tape.at(at) - '0';
+                at++;
+            }
+            values[count] = value;
+            boolean bad = at - start > NUMBER_LENGTH || isLetter(tape.at(at));
+            return bad ? Kind.BAD : Kind.NUMBER;
+        }
+
+        private static boolean isLetter(int c) {
+            return c >= 'a' && c <= 'z';
+        }
+
+        private static boolean isDigit(int c) {
+            return c >= '0' && c <= '9';
+        }
+    }
+
+    /** Reads an island or a formula, up to the first fault. */
+    private static final class Reader {
+        private static final int NO_TOKEN = 1;
+        private static final int OUT_OF_PLACE = 2;
+        private static final int TOLD_ALREADY = 3;
+        private static final int NOBODY = 4;
+        private static final int ISLAND_UNITS = 60;
+        private static final int FORMULA_UNITS = 30;
+        private static final int WITHIN = 6;
+        int fault = 0;
+        int place = NONE;
+        private final Tokens tokens;
+        private Island island;
+        private Code code;
+        private int unitLimit = 0;
+        private int units = 0;
+        private int at = 0;
+        private int kind = Kind.END;
+
+        Reader(Tape from, Island of, Code into) {
+            tokens = new Tokens(from);
+            island = of;
+            code = into;
+        }
+
         boolean readIsland(Island into) {
             into.clear();
             begin(into, into.code, ISLAND_UNITS);
             for (int i = 0; i < Tape.LIMIT && kind != Kind.END && fault == 0; i++) {
-                readLine();
+                switch (kind) {
+                    case Kind.ONE:
+                        readPerson();
+                        break;
+                    case Kind.BLIND:
+                        readBlind();
+                        break;
+                    case Kind.LAW:
+                        readLaw();
+                        break;
+                    case Kind.SAYING:
+                        readSaying();
+                        break;
+                    default:
+                        fail(OUT_OF_PLACE);
+                        break;
+                }
+                expect(';');
             }
             into.units = units;
             return fault == 0;
@@ -588,7 +729,7 @@ public final class NinetyNights {
         boolean readFormula(Island of, Code into) {
             into.size = 0;
             begin(of, into, FORMULA_UNITS);
-            readEither(0);
+            readPart(0, 0);
             if (kind != Kind.END) {
                 fail(OUT_OF_PLACE);
             }
@@ -600,31 +741,11 @@ public final class NinetyNights {
             code = into;
             unitLimit = limit;
             units = 0;
-            at = 0;
             fault = 0;
             place = NONE;
-            advance();
-        }
-
-        private void readLine() {
-            switch (kind) {
-                case Kind.ONE:
-                    readPerson();
-                    break;
-                case Kind.BLIND:
-                    readBlind();
-                    break;
-                case Kind.LAW:
-                    readLaw();
-                    break;
-                case Kind.SAYING:
-                    readSaying();
-                    break;
-                default:
-                    fail(OUT_OF_PLACE);
-                    break;
-            }
-            expect(';');
+            tokens.scan();
+            at = 0;
+            kind = tokens.kindOf(0);
         }
 
         private void readPerson() {
@@ -632,19 +753,16 @@ public final class NinetyNights {
                 fail(OUT_OF_PLACE);
             }
             advance();
+            long name = tokens.valueOf(at);
+            int one = island.people;
             if (kind != Kind.NAME) {
                 fail(OUT_OF_PLACE);
-            } else if (island.find(word) != NONE) {
+            } else if (island.find(name) != NONE) {
                 fail(TOLD_ALREADY);
             } else {
-                int one = island.people;
-                island.addPerson(word);
+                island.addPerson(name);
                 advance();
-                readTraits(one);
             }
-        }
-
-        private void readTraits(int one) {
             if (accept(Kind.MARKED)) {
                 island.marked |= 1 << one;
             }
@@ -692,64 +810,35 @@ public final class NinetyNights {
             }
             advance();
             island.startSaying();
-            readEither(0);
+            readPart(0, 0);
             island.endSaying();
         }
 
-        /** A whole formula; within: how many units with ( ), and ones behind not, it stands in. */
-        private void readEither(int within) {
-            readBoth(within);
-            for (int i = 0; i < Tape.LIMIT && accept(Kind.OR); i++) {
-                readBoth(within);
-                code.add(Kind.OR, 0);
+        /**
+         * Reads the longest part of a formula whose joints bind at least as the rank asks (0: the
+         * whole). Within: how many units with ( ), and ones behind not, it stands in.
+         */
+        private void readPart(int rank, int within) {
+            int highest = Kind.TIMES_RANK;
+            if (kind == Kind.NOT && rank <= Kind.RELATION_RANK && within <= WITHIN) {
+                advance();
+                readPart(Kind.RELATION_RANK, within + 1);
+                code.add(Kind.NOT, 0);
+                highest = Kind.RELATION_RANK - 1;
+            } else {
+                readUnit(within);
             }
-        }
-
-        private void readBoth(int within) {
-            readOne(within);
-            for (int i = 0; i < Tape.LIMIT && accept(Kind.AND); i++) {
-                readOne(within);
-                code.add(Kind.AND, 0);
-            }
-        }
-
-        private void readOne(int within) {
-            if (kind == Kind.NOT) {
-                if (within > WITHIN) {
-                    fail(OUT_OF_PLACE);
-                    return;
+            for (int i = 0; i < Tape.LIMIT; i++) {
+                int joint = kind;
+                int here = Kind.rankOf(joint);
+                if (here < rank || here > highest) {
+                    break;
                 }
                 advance();
-                readOne(within + 1);
-                code.add(Kind.NOT, 0);
-                return;
-            }
-            readSum(within);
-            int relation = kind;
-            if (relation == '<' || relation == '>' || relation == '=') {
-                advance();
-                readSum(within);
-                code.add(relation, 0);
-            }
-        }
-
-        private void readSum(int within) {
-            readTerm(within);
-            for (int i = 0; i < Tape.LIMIT && (kind == '+' || kind == '-'); i++) {
-                int sign = kind;
-                advance();
-                readTerm(within);
-                code.add(sign, 0);
-            }
-        }
-
-        private void readTerm(int within) {
-            readUnit(within);
-            for (int i = 0; i < Tape.LIMIT && (kind == '*' || kind == '/'); i++) {
-                int sign = kind;
-                advance();
-                readUnit(within);
-                code.add(sign, 0);
+                readPart(here + 1, within);
+                code.add(joint, 0);
+                // Behind a relation no other can follow; behind the rest one of the same rank may.
+                highest = here == Kind.RELATION_RANK ? here - 1 : here;
             }
         }
 
@@ -761,7 +850,7 @@ public final class NinetyNights {
                 return;
             }
             units++;
-            int of = first == Kind.NUMBER ? value : 0;
+            int of = first == Kind.NUMBER ? (int) tokens.valueOf(at) : 0;
             advance();
             if (first == Kind.HAS || first == Kind.GONE || first == Kind.KNOWS) {
                 of = Math.max(readName(), 0);
@@ -771,7 +860,7 @@ public final class NinetyNights {
                 if (first != '(') {
                     expect('(');
                 }
-                readEither(within + 1);
+                readPart(0, within + 1);
                 expect(')');
             }
             if (first != '(') {
@@ -779,13 +868,13 @@ public final class NinetyNights {
             }
         }
 
-        /** The number of the one whose name stands here; NONE behind a fault. */
+        /** The number of the one whose name stands here; NONE with a fault. */
         private int readName() {
             if (kind != Kind.NAME) {
                 fail(OUT_OF_PLACE);
                 return NONE;
             }
-            int one = island.find(word);
+            int one = island.find(tokens.valueOf(at));
             if (one == NONE) {
                 fail(NOBODY);
             }
@@ -801,7 +890,9 @@ public final class NinetyNights {
         }
 
         private void expect(int wanted) {
-            if (!accept(wanted)) {
+            if (kind == wanted) {
+                advance();
+            } else {
                 fail(OUT_OF_PLACE);
             }
         }
@@ -810,70 +901,16 @@ public final class NinetyNights {
         private void fail(int what) {
             if (fault == 0) {
                 fault = kind == Kind.BAD ? NO_TOKEN : what;
-                place = start;
+                place = tokens.placeOf(at);
                 kind = Kind.STOP;
             }
         }
 
         private void advance() {
-            if (fault != 0) {
-                return;
-            }
-            while (at < tape.length && isBlank(tape.at(at))) {
+            if (fault == 0) {
                 at++;
+                kind = tokens.kindOf(at);
             }
-            start = at;
-            int first = tape.at(at);
-            if (first == NONE) {
-                kind = Kind.END;
-            } else if (isLetter(first)) {
-                takeWord();
-            } else if (isDigit(first)) {
-                takeNumber();
-            } else {
-                at++;
-                kind = Kind.SIGNS.indexOf((char) first) >= 0 ? first : Kind.BAD;
-            }
-        }
-
-        private void takeWord() {
-            word = 0;
-            while (at < tape.length && isLetter(tape.at(at))) {
-                word = word << 8 | tape.at(at);
-                at++;
-            }
-            kind = at - start > WORD_LENGTH ? Kind.BAD : kindOfWord();
-        }
-
-        private int kindOfWord() {
-            for (int i = 0; i < Kind.WORDS; i++) {
-                if (words[i] == word) {
-                    return Kind.FIRST_WORD + i;
-                }
-            }
-            return Kind.NAME;
-        }
-
-        private void takeNumber() {
-            value = 0;
-            while (at < tape.length && isDigit(tape.at(at))) {
-                value = value * 10 + tape.at(at) - '0';
-                at++;
-            }
-            boolean bad = at - start > NUMBER_LENGTH || isLetter(tape.at(at));
-            kind = bad ? Kind.BAD : Kind.NUMBER;
-        }
-
-        private static boolean isBlank(int c) {
-            return c == ' ' || c == 10;
-        }
-
-        private static boolean isLetter(int c) {
-            return c >= 'a' && c <= 'z';
-        }
-
-        private static boolean isDigit(int c) {
-            return c >= '0' && c <= '9';
         }
     }
 
@@ -885,7 +922,7 @@ public final class NinetyNights {
         void open(Island island) {
             for (int one = 0; one < island.people; one++) {
                 for (int world = 0; world < island.worldCount(); world++) {
-                    groups[one][world] = world & island.views[one];
+                    groups[one][world] = world & island.seen[one];
                 }
             }
         }
@@ -1043,35 +1080,38 @@ public final class NinetyNights {
             return rows[0];
         }
 
-        void weigh(Scene scene, Code code, int from, int to) {
-            top = 0;
-            for (int i = from; i < to; i++) {
-                step(scene, code.kindAt(i), code.ofAt(i));
+        void weighSaying(Scene scene, int i) {
+            Island island = scene.island;
+            if (i >= 0 && i < island.sayings) {
+                weigh(scene, island.code, island.starts[i], island.starts[i + 1]);
             }
         }
 
-        private void step(Scene scene, int kind, int of) {
-            switch (kind) {
-                case Kind.NUMBER:
-                case Kind.MARKS:
-                case Kind.HAS:
-                case Kind.GONE:
-                    pushLeaf(scene, kind, of);
-                    break;
-                case Kind.NOT:
-                case Kind.KNOWS:
-                case Kind.ALL:
-                case Kind.COMMON:
-                    if (top >= 1) {
-                        turn(scene, kind, of, rows[top - 1]);
+        void weigh(Scene scene, Code code, int from, int to) {
+            top = 0;
+            for (int i = from; i < to; i++) {
+                int kind = code.kindAt(i);
+                if (Kind.isLeaf(kind)) {
+                    pushLeaf(scene, kind, code.ofAt(i));
+                } else if (Kind.rankOf(kind) != NONE) {
+                    joinTop(scene, kind);
+                } else if (top >= 1) {
+                    int[] row = rows[top - 1];
+                    switch (kind) {
+                        case Kind.NOT:
+                            negate(scene, row);
+                            break;
+                        case Kind.KNOWS:
+                            knowsOne(scene, code.ofAt(i), row);
+                            break;
+                        case Kind.ALL:
+                            knowAll(scene, row);
+                            break;
+                        default:
+                            knowInCommon(scene, row);
+                            break;
                     }
-                    break;
-                default:
-                    if (top >= 2) {
-                        top--;
-                        join(scene, kind, rows[top - 1], rows[top]);
-                    }
-                    break;
+                }
             }
         }
 
@@ -1100,27 +1140,21 @@ public final class NinetyNights {
             }
         }
 
-        private void turn(Scene scene, int kind, int of, int[] row) {
-            switch (kind) {
-                case Kind.NOT:
-                    for (int i = 0; i < scene.count; i++) {
-                        int world = scene.list[i];
-                        row[world] = row[world] == 0 ? 1 : 0;
-                    }
-                    break;
-                case Kind.KNOWS:
-                    knowsOne(scene, of, row);
-                    break;
-                case Kind.ALL:
-                    knowAll(scene, row);
-                    break;
-                default:
-                    knowInCommon(scene, row);
-                    break;
+        private static void negate(Scene scene, int[] row) {
+            for (int i = 0; i < scene.count; i++) {
+                int world = scene.list[i];
+                row[world] = row[world] == 0 ? 1 : 0;
             }
         }
 
-        private static void join(Scene scene, int kind, int[] left, int[] right) {
+        /** The two last rows become one. */
+        private void joinTop(Scene scene, int kind) {
+            if (top < 2) {
+                return;
+            }
+            top--;
+            int[] left = rows[top - 1];
+            int[] right = rows[top];
             for (int i = 0; i < scene.count; i++) {
                 int world = scene.list[i];
                 left[world] = joined(kind, left[world], right[world]);
@@ -1217,16 +1251,12 @@ public final class NinetyNights {
                     if (first == NONE) {
                         known[group[world]] = world;
                     } else {
-                        link(first, world);
+                        int a = rootOf(first);
+                        int b = rootOf(world);
+                        roots[Math.max(a, b)] = Math.min(a, b);
                     }
                 }
             }
-        }
-
-        private void link(int a, int b) {
-            int rootA = rootOf(a);
-            int rootB = rootOf(b);
-            roots[Math.max(rootA, rootB)] = Math.min(rootA, rootB);
         }
 
         private int rootOf(int world) {
@@ -1400,24 +1430,17 @@ public final class NinetyNights {
             return nights >> NIGHT_BITS * one & (1 << NIGHT_BITS) - 1;
         }
 
-        void learn(Island island, Mind mind) {
-            for (int saying = 0; saying <= island.sayings; saying++) {
-                learnFrom(island, saying, mind);
-            }
-            fresh = true;
-        }
-
         /**
          * No world is struck here by who went: all that can't be told apart by it part their
          * groups instead, so that the nights of all true worlds pass at once.
          */
-        private void learnFrom(Island island, int saying, Mind mind) {
+        void learn(Island island, int saying, Mind mind) {
             int[] nights = wentOn[saying];
             Arrays.fill(nights, NONE);
             Arrays.fill(gone, 0);
             first.open(island);
             if (saying < island.sayings) {
-                mind.weigh(first, island.code, island.starts[saying], island.starts[saying + 1]);
+                mind.weighSaying(first, saying);
                 first.keepSo(mind.result());
             }
             for (int i = 0; i < first.count; i++) {

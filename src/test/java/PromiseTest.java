@@ -455,6 +455,10 @@ public final class PromiseTest {
         due("20 too early", x.fewest(2, 1), -1);
         x = Checks.on("one a marked;one b;saying marks = 1;saying has a or has b;saying has a;");
         due("20 of like ones the least", x.fewest(1, 1), 1);
+        x = Checks.on("one a marked;one b;law own;saying marks > 0;");
+        due("20 on two nights", x.fewest(3, 2), 1);
+        due("20 not yet the other", x.fewest(1, 1), 1);
+        due("20 the other, too", x.fewest(1, 2), -1);
     }
 
     private static void sightAndUntell() {
@@ -532,6 +536,12 @@ public final class PromiseTest {
         due("25 a", x.sure(0, 3), 0);
         due("25 c", x.sure(2, 3), 1);
         due("25 a then", x.sure(0, 2), -2);
+        NinetyNights y = Checks.on(THREE);
+        y.sight(0, 1, true);
+        due("25 the first has", y.sure(0, 0), 1);
+        y = Checks.on("one a;one b;saying marks = 1 and has b;");
+        y.sight(1, 1, true);
+        due("25 the first has none", y.sure(0, 0), 0);
         x.later(1);
         x.sight(1, 3, true);
         due("25 none fits", x.sure(1, 4), -1);
