@@ -93,11 +93,10 @@ public final class NinetyNights {
     }
 
     public int like(int one, int a, int b) {
-        if (!told.isPerson(one) || !told.isWorld(a) || !told.isWorld(b)) {
+        if (!told.isPerson(one) || !now.contains(a) || !now.contains(b)) {
             return NONE;
         }
-        boolean both = now.contains(a) && now.contains(b);
-        return both && now.views.areAlike(one, a, b) ? 1 : 0;
+        return now.views.areAlike(one, a, b) ? 1 : 0;
     }
 
     public int own(int one) {

@@ -201,7 +201,8 @@ public final class ModelTest {
         calls += 4;
         int other = random.nextInt(1 << model.people);
         boolean both = model.possible.contains(world) && model.possible.contains(other);
-        due("like", x.like(one, world, other), both && model.like(one, world, other) ? 1 : 0);
+        int like = model.like(one, world, other) ? 1 : 0;
+        due("like", x.like(one, world, other), both ? like : -1);
         due("own " + one, x.own(one), model.own(one, model.marked));
         due("when " + one, x.when(one), model.when(one));
         int seen = 0;

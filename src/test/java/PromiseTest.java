@@ -175,8 +175,10 @@ public final class PromiseTest {
         due("9 whispered, so in both", x.like(0, 0b100, 0b101), 1);
         due("9 not whispered to him", x.like(2, 0b000, 0b100), 1);
         Checks.say(x, "has c");
-        due("9 struck", x.like(0, 0, 1), 0);
-        due("9 struck", x.like(0, 0, 0), 0);
+        due("9 struck", x.like(0, 0, 1), -1);
+        due("9 struck", x.like(0, 0, 0), -1);
+        due("9 one of them struck", x.like(0, 4, 0), -1);
+        due("9 one of them struck", x.like(0, 0, 4), -1);
         due("9 left", x.like(0, 4, 5), 1);
     }
 
