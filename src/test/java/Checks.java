@@ -1,12 +1,54 @@
 /** What the tests share: putting a text on the tape, and counting answers that are not due. */
 final class Checks {
+    private final String ahead;
     private int wrong = 0;
+
+    Checks() {
+        this("");
+    }
+
+    /** What is printed ahead of each answer that is not due: the test's name. */
+    Checks(String ahead) {
+        this.ahead = ahead;
+    }
 
     void due(String what, long got, long want) {
         if (got != want) {
             wrong++;
-            System.out.println(what + " answered " + got + ", due is " + want);
+            System.out.println(ahead + what + " answered " + got + ", due is " + want);
         }
+    }
+
+    /** A text that is an island of so many people. */
+    void good(String text, int people) {
+        NinetyNights x = new NinetyNights();
+        due("island of " + text, island(x, text), people);
+        dueFault(x, text, 0, NinetyNights.NONE);
+    }
+
+    /** A text that is no island. */
+    void bad(String text, int fault, int place) {
+        NinetyNights x = new NinetyNights();
+        due("island of " + text, island(x, text), NinetyNights.NONE);
+        dueFault(x, text, fault, place);
+    }
+
+    /** A formula with its value where a, who has a mark, and b are. */
+    void goodFormula(String text, int value) {
+        NinetyNights x = on("one a marked;one b;");
+        due("ask of " + text, ask(x, text), value);
+        dueFault(x, text, 0, NinetyNights.NONE);
+    }
+
+    void badFormula(String text, int fault, int place) {
+        NinetyNights x = on("one a marked;one b;");
+        due("ask of " + text, ask(x, text), NinetyNights.GAP);
+        dueFault(x, text, fault, place);
+    }
+
+    void dueFault(NinetyNights x, String text, int fault, int place) {
+        due("fault(0) of " + text, x.fault(0), fault);
+        due("fault(1) of " + text, x.fault(1), place);
     }
 
     void due(String what, boolean got, boolean want) {

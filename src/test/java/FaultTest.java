@@ -19,30 +19,19 @@ public final class FaultTest {
     }
 
     private static void good(String text, int people) {
-        NinetyNights x = new NinetyNights();
-        CHECKS.due("island of " + text, Checks.island(x, text), people);
-        CHECKS.due("fault(0) of " + text, x.fault(0), 0);
-        CHECKS.due("fault(1) of " + text, x.fault(1), -1);
+        CHECKS.good(text, people);
     }
 
     private static void bad(String text, int fault, int place) {
-        NinetyNights x = new NinetyNights();
-        CHECKS.due("island of " + text, Checks.island(x, text), -1);
-        CHECKS.due("fault(0) of " + text, x.fault(0), fault);
-        CHECKS.due("fault(1) of " + text, x.fault(1), place);
+        CHECKS.bad(text, fault, place);
     }
 
     private static void badFormula(String text, int fault, int place) {
-        NinetyNights x = Checks.on("one a marked;one b;");
-        CHECKS.due("ask of " + text, Checks.ask(x, text), NinetyNights.GAP);
-        CHECKS.due("fault(0) of " + text, x.fault(0), fault);
-        CHECKS.due("fault(1) of " + text, x.fault(1), place);
+        CHECKS.badFormula(text, fault, place);
     }
 
     private static void goodFormula(String text, int value) {
-        NinetyNights x = Checks.on("one a marked;one b;");
-        CHECKS.due("ask of " + text, Checks.ask(x, text), value);
-        CHECKS.due("fault(0) of " + text, x.fault(0), 0);
+        CHECKS.goodFormula(text, value);
     }
 
     private static void goodIslands() {
