@@ -474,7 +474,7 @@ public final class NinetyNights {
         /** Whose marks each sees, as bits. */
         final int[] seen = new int[PEOPLE];
         final Code code = new Code();
-        /** Where each saying's steps start, and behind them the end of the last. */
+        /** Where each saying's steps start (the first at 0), and behind them the end of the last. */
         final int[] starts = new int[SAYINGS + 1];
 
         void clear() {
@@ -546,12 +546,7 @@ public final class NinetyNights {
             blinds++;
         }
 
-        void startSaying() {
-            if (sayings < SAYINGS) {
-                starts[sayings] = code.size;
-            }
-        }
-
+        /** What was added to the code since the last saying is the next one. */
         void endSaying() {
             if (sayings < SAYINGS) {
                 sayings++;
@@ -808,7 +803,6 @@ public final class NinetyNights {
                 fail(OUT_OF_PLACE);
             }
             advance();
-            island.startSaying();
             readPart(0, 0);
             island.endSaying();
         }

@@ -33,8 +33,10 @@ final class Islands {
         StringBuilder lower = new StringBuilder("0");
         for (int one = 1; one < 8; one++) {
             char before = (char) ('a' + one - 1);
-            Checks.whisper(x, "has " + (char) ('a' + one) + " and not (has " + before + " and " + lower + " = 0)",
-                    1 << one);
+            String formula = "has " + (char) ('a' + one) + " and not (has " + before + " and " + lower + " = 0)";
+            if (Checks.whisper(x, formula, 1 << one) != 0) {
+                throw new IllegalStateException("not 0: whisper of " + formula);
+            }
             lower.append(" + has ").append(before);
         }
         return x;

@@ -45,8 +45,12 @@ public final class LanguageTest {
                 compiler.getStandardFileManager(null, null, StandardCharsets.US_ASCII)) {
             JavacTask task = (JavacTask) compiler.getTask(null, files, null, List.of("-proc:none"), null,
                     files.getJavaFileObjects(SOURCE));
-            for (CompilationUnitTree unit : task.parse()) {
+            Iterable<? extends CompilationUnitTree> units = task.parse();
+            task.analyze();
+            for (CompilationUnitTree unit : units) {
                 new Walk(unit, Trees.instance(task)).scan(unit, null);
+                int deepest = new CallDepth(Trees.instance(task), unit).most();
+                CHECKS.due("rule 11, calls go " + deepest + " deep, at most eight", deepest <= 8, true);
             }
         }
         CHECKS.finish();

@@ -182,6 +182,16 @@ public final class LaterPromiseEdgesTest {
         c.due("a alone", x.fewest(0b01, 2), 0);
     }
 
+    static void promise20AskedBeforeItAnswersAsAtFirst(Checks c) {
+        NinetyNights x = Checks.on("one a;one b;saying not has b;");
+        c.due("nobody by one", x.fewest(1, 1), -1);
+        Checks.island(x, "one a;one b marked;saying has b;");
+        c.due("another ISLAND", x.fewest(2, 1), 1);
+        c.due("again", x.fewest(2, 1), 1);
+        Checks.whisper(x, "has b", 2);
+        c.due("behind a WHISPER", x.fewest(2, 1), 0);
+    }
+
     // ---- 21
 
     static void promise21ItsNumber(Checks c) {
@@ -336,6 +346,16 @@ public final class LaterPromiseEdgesTest {
         c.due("both can't be", x.fits(0), 0);
         c.due("without PEOPLE", new NinetyNights().fits(0), 1);
         c.due("without PEOPLE, a SAYING", Checks.on("saying 1;saying 0;saying 2;").fits(0), 3);
+    }
+
+    static void promise24AllSixSayings(Checks c) {
+        NinetyNights x = Checks.on("one a;one b;one d;one e;one f;one g;saying has a;saying has b;saying has d;"
+                + "saying has e;saying has f;saying has g;");
+        c.due("nothing or one of six", x.fits(0), 64 + 6 * 32);
+        x.sight(5, 1, true);
+        c.due("the sixth", x.fits(0), 32);
+        x.sight(0, 1, true);
+        c.due("not the first, too", x.fits(0), 0);
     }
 
     static void promise24AsKnownAtAnyTime(Checks c) {

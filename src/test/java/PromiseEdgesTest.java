@@ -216,6 +216,11 @@ public final class PromiseEdgesTest {
         c.due("SIGHTS", x.about(5), 0);
         c.due("none to untell", x.untell(0) ? 1 : 0, 0);
         c.due("none counts", x.fits(9), 12);
+        Checks.island(x, "one a;one b;saying has a;saying 0;");
+        c.due("what FITS is of the new ISLAND", x.fits(9), 6);
+        x.sight(1, 1, true);
+        Checks.island(x, "one a;one b;one d;saying has a;");
+        c.due("none counts again", x.fits(9), 12);
         c.due("numbered from 0", x.sight(0, 1, true), 0);
         c.due("that one counts", x.fits(9), 4);
     }
@@ -256,6 +261,32 @@ public final class PromiseEdgesTest {
                 c.due(text + ": box " + box, x.back(box), 0);
             }
             c.due(text + ": the law, and who has a mirror", x.night(), 1);
+        }
+    }
+
+    static void promise04NothingOfAnEarlierTextIsLeft(Checks c) {
+        String full = "one a marked mirror stays;one b marked;one d stays;blind a b;blind b a;law own;saying has a;"
+                + "saying 0;saying marks = 7;";
+        String plain = "one a;one b mirror;one d;";
+        for (int faulty = 0; faulty < 2; faulty++) {
+            NinetyNights x = new NinetyNights();
+            c.due("full", Checks.island(x, full + (faulty == 1 ? "saying" : "")), faulty == 1 ? -1 : 3);
+            if (faulty == 0) {
+                c.due("between", Checks.island(x, "one a;"), 1);
+            }
+            c.due("plain", Checks.island(x, plain + "saying has a + 1;law has;"), 3);
+            c.due("marks", x.about(2), 0);
+            c.due("SAYINGS", x.about(1), 1);
+            c.due("units", x.about(8), 2);
+            c.due("a sees", x.sees(0), 0b110);
+            c.due("b sees", x.sees(1), 0b111);
+            c.due("the SAYING is the new one", x.saying(0), 0);
+            c.due("the law is has", x.night(), 0);
+            Checks.say(x, "not has a");
+            c.due("plain again", Checks.island(x, plain + "law own;"), 3);
+            c.due("the law is own", x.night(), 0b010);
+            c.due("another", Checks.island(x, "one d marked mirror;one a mirror;one b marked mirror;"), 3);
+            c.due("nobody stays, and the law is has", x.night(), 0b101);
         }
     }
 

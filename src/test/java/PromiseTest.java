@@ -1,8 +1,7 @@
 /** Each promise by its number: ordinary calls, the edges that the document names, wrong ones. */
 public final class PromiseTest {
     private static final Checks CHECKS = new Checks();
-    private static final String THREE =
-            "one ann marked;one ben marked;one cy;saying marks > 0;saying has ann;";
+    private static final String THREE = Islands.THREE;
     private static final String CHILDREN =
             "one a marked;one b marked;one c marked;one d marked;one e marked;one f;one g;one h;";
 
@@ -242,44 +241,6 @@ public final class PromiseTest {
         due("13 said", Checks.deep(x, "marks > 4"), 0);
         due("13 a fault", Checks.deep(x, "marks >"), NinetyNights.GAP);
         due("13 the tape is empty", x.about(7), 0);
-        deepest();
-    }
-
-    /**
-     * Whispers that leave a single chain of 256 worlds, as the Gray code goes: each is alike only
-     * to the next, to one of the eight. What is not so k steps from here is known k - 1 deep.
-     */
-    private static void deepest() {
-        NinetyNights x = chain();
-        for (int k : new int[] {1, 2, 50, 97, 98, 99, 100, 101, 255}) {
-            due("13 so for " + k + " steps", Checks.deep(x, "not (" + world(k ^ k >> 1) + ")"), Math.min(k - 1, 98));
-        }
-        due("13 in common", Checks.deep(x, "marks < 9"), 99);
-        Checks.say(x, "not (has h and marks = 1)");
-        due("7 one struck", x.worlds(), 255);
-        due("13 in common", Checks.deep(x, "not (has h and marks = 1)"), 99);
-    }
-
-    private static NinetyNights chain() {
-        NinetyNights x = Checks.on("one a;one b;one c;one d;one e;one f;one g;one h;");
-        StringBuilder lower = new StringBuilder("0");
-        for (int one = 1; one < 8; one++) {
-            String formula = "has " + (char) ('a' + one) + " and not (has " + (char) ('a' + one - 1)
-                    + " and " + lower + " = 0)";
-            due("16 the chain's whisper", Checks.whisper(x, formula, 1 << one), 0);
-            lower.append(" + has ").append((char) ('a' + one - 1));
-        }
-        return x;
-    }
-
-    private static String world(int marks) {
-        StringBuilder text = new StringBuilder("marks = " + Integer.bitCount(marks));
-        for (int one = 0; one < 8; one++) {
-            if ((marks >> one & 1) == 1) {
-                text.append(" and has ").append((char) ('a' + one));
-            }
-        }
-        return text.toString();
     }
 
     private static void say() {

@@ -85,6 +85,15 @@ public final class TermEdgesTest {
         c.due("b sees it anyway", x.like(1, 0b000, 0b010), 1);
     }
 
+    static void terms2AWhisperTellsOnlyWhetherItIsNotZero(Checks c) {
+        NinetyNights x = Checks.on("one a;one b;one d;blind a b;blind a d;");
+        Checks.whisper(x, "has b * 2 + has d * 3", 0b001);
+        c.due("0 and 2", x.like(0, 0b000, 0b010), 0);
+        c.due("2 and 3", x.like(0, 0b010, 0b100), 1);
+        c.due("3 and 5", x.like(0, 0b100, 0b110), 1);
+        c.due("0 and 5", x.like(0, 0b000, 0b110), 0);
+    }
+
     static void terms2OneKnowsWhatIsSoInAllLikePossibleWorlds(Checks c) {
         NinetyNights x = Checks.on("one a marked;one b marked;");
         c.due("he sees it", Checks.ask(x, "knows a(has b)"), 1);
@@ -106,6 +115,8 @@ public final class TermEdgesTest {
         c.due("not", Checks.ask(x, "not 0 - 3"), 0);
         c.due("deep", Checks.deep(x, "0 - 1"), 99);
         c.due("whispered", Checks.whisper(x, "0 - 1", 1), 1);
+        Checks.whisper(x, "1 + has a", 1);
+        c.due("so in both, though not the same", x.like(0, 0, 1), 1);
         c.due("said", Checks.say(x, "0 - has a"), 2);
     }
 
@@ -553,6 +564,10 @@ public final class TermEdgesTest {
         c.due("a has one", x.sure(0, 0), 1);
         c.due("b has none", x.sure(1, 0), 0);
         c.due("d can have one or not", x.sure(2, 0), -2);
+        x = Checks.on("one a;one b;saying has b and not has a;");
+        x.sight(1, 1, true);
+        c.due("a has none", x.sure(0, 0), 0);
+        c.due("b has one", x.sure(1, 0), 1);
     }
 
     static void terms4SpentWithMoreThanSixPeople(Checks c) {

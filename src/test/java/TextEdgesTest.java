@@ -26,6 +26,11 @@ public final class TextEdgesTest {
         c.good(padded("one a;", "one b;", 1600), 2);
         c.bad(padded("one a;", "one b", 1600), 2, 1600);
         c.bad(padded("one a;", "$", 1600), 1, 1599);
+        c.bad(";".repeat(1600), 2, 0);
+        c.bad("saying " + "(".repeat(1593), 2, 14);
+        c.bad("a".repeat(1600), 1, 0);
+        c.badFormula("1".repeat(1600), 1, 0);
+        c.badFormula("1" + ")".repeat(1599), 2, 1);
     }
 
     static void terms1WordsHaveOneToEightLetters(Checks c) {
